@@ -13,6 +13,7 @@ public final class ExactDigits {
     /** No double needs more digits than the most to be told from its neighbours. */
     private static final int LEAST_SHORTEST = 2;
     private static final int MOST_SHORTEST = 17;
+    private static final long NONE = -1;
 
     /** Numbers with a greater point are above all doubles, with a lesser one below half the least. */
     private static final int POINT_OF_INFINITE = 310;
@@ -226,25 +227,39 @@ public final class ExactDigits {
     }
 
     /**
-     * The exact NUMBER becomes its shortest one. At each length only the two neighbours on that
-     * grid can be the answer, for the numbers that read back lie in one span round the exact one.
-     * The further one counts too: below a power of two that span is only half as wide as above.
+     * The exact NUMBER becomes its shortest one. The length is found by halving, for what reads back
+     * with some digits does with one more. A NUMBER as short as that stays: it is the nearest.
      */
     private void shorten(long size, Format format) {
-        for (int n = LEAST_SHORTEST; n <= MOST_SHORTEST && n < count; n++) {
-            long first = firstDigits(n);
-            int exponent = point - n;
-            long near = isNearerAbove(n, first) ? first + 1 : first;
-            long far = near == first ? first + 1 : first;
-            if (readsBack(near, exponent, size, format)) {
-                giveTimesTen(near, exponent);
-                return;
-            }
-            if (readsBack(far, exponent, size, format)) {
-                giveTimesTen(far, exponent);
-                return;
+        int least = LEAST_SHORTEST;
+        int most = Math.min(count, MOST_SHORTEST);
+        while (least < most) {
+            int n = (least + most) / 2;
+            if (neighbourReadBack(n, size, format) != NONE) {
+                most = n;
+            } else {
+                least = n + 1;
             }
         }
+        long shorter = most < count ? neighbourReadBack(most, size, format) : NONE;
+        if (shorter != NONE) {
+            scratch.setUnsigned(shorter);
+            giveScratch(point - most);
+        }
+    }
+
+    /**
+     * Of the numbers with n digits only the two round the exact one can be the nearest that reads
+     * back. The further one is tried too: what reads back may reach further above than below.
+     */
+    private long neighbourReadBack(int n, long size, Format format) {
+        long below = firstDigits(n);
+        long near = isNearerAbove(n, below) ? below + 1 : below;
+        long far = near == below ? below + 1 : below;
+        if (readsBack(near, point - n, size, format)) {
+            return near;
+        }
+        return readsBack(far, point - n, size, format) ? far : NONE;
     }
 
     private long firstDigits(int n) {
@@ -255,17 +270,15 @@ public final class ExactDigits {
         return first;
     }
 
-    /** Of two neighbours as near as each other, the one with an even last digit. */
-    private boolean isNearerAbove(int n, long first) {
+    /** Of two that are as near as each other, the one with an even last digit. */
+    private boolean isNearerAbove(int n, long below) {
+        if (n >= count) {
+            return false;
+        }
         if (digits[n] != 5) {
             return digits[n] > 5;
         }
-        return count > n + 1 || (first & 1) != 0;
-    }
-
-    private void giveTimesTen(long v, int exponent) {
-        scratch.setUnsigned(v);
-        giveScratch(exponent);
+        return count > n + 1 || (below & 1) != 0;
     }
 
     private boolean readsBack(long v, int exponent, long size, Format format) {
@@ -295,8 +308,8 @@ public final class ExactDigits {
 
     /** How the bits of a double or a float are laid out. */
     private enum Format {
-        DOUBLE(52, -1074, Long.MAX_VALUE, 0x7FF0000000000000L),
-        FLOAT(23, -149, Integer.MAX_VALUE, 0x7F800000L);
+        DOUBLE(52, -1074, 0x7FFFFFFFFFFFFFFFL, 0x7FF0000000000000L),
+        FLOAT(23, -149, 0x7FFFFFFFL, 0x7F800000L);
 
         final int fractionBits;
         final int leastExponent;

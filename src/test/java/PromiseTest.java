@@ -205,7 +205,11 @@ public final class PromiseTest {
         shortest(bits(2.0E-322), false, "2", -321);
         // as near above as below: the even last digit
         shortest(bits(0x1p-25), false, "29802322387695312", -7);
-        shortest(bits(0x1.8p-24), false, "8940696716308594", -7);
+        shortest(bits(3 * 0x1p-24), false, "17881393432617188", -6);
+        shortest(bits(0x1p-12f), true, "24414062", -3);
+        shortest(bits(3 * 0x1p-11f), true, "14648438", -2);
+        // as near, but the even one, below a power of two, does not read back
+        shortest(bits(0x1p-24), false, "5960464477539063", -7);
         // the nearer one, below a power of two, does not read back; the further one above does
         shortest(bits(0x1p-44), false, "5684341886080802", -13);
         // at the very end of the span: reads back if the double (float) is even
@@ -508,6 +512,7 @@ public final class PromiseTest {
         }
         ExactDigits cut = of(98765);
         cut.cut(-2);
+        checks.due("digit(-2) where one was cut", cut.digit(-2), 0);
         checks.due("digit(-1) where one was cut", cut.digit(-1), 0);
     }
 
@@ -572,6 +577,8 @@ public final class PromiseTest {
         nearest(shifted(1, 1023), bits(0x1p1023), SMALL_INFINITE);
         nearest(shifted(1, 1024), INFINITE, SMALL_INFINITE);
         nearest(shifted(1, 1027), INFINITE, SMALL_INFINITE);
+        nearest(shifted((1L << 54) - 1, 971), INFINITE, SMALL_INFINITE);
+        nearest(moved(99999999999999999L, 292), INFINITE, SMALL_INFINITE);
         ExactDigits middle = shifted((1L << 54) - 1, 970);
         nearest(middle, INFINITE, SMALL_INFINITE);
         middle.cut(-1);
