@@ -340,7 +340,7 @@ public final class ExactDigits {
 
         /** Head (above 0, of more bits than a significand) and a little more, times 2 to the exponent. */
         long nearestTo(long head, boolean more, int exponent) {
-            int spare = 63 - Long.numberOfLeadingZeros(head) - fractionBits;
+            int spare = bitsOf(head) - 1 - fractionBits;
             int drop = Math.max(spare, leastExponent - exponent);
             int steps = exponent + drop - leastExponent;
             if (drop > 63) {
@@ -357,12 +357,21 @@ public final class ExactDigits {
             // added, not joined: the leading 1 and a carry then count up the exponent's field
             return ((long) steps << fractionBits) + kept + (up ? 1 : 0);
         }
+
+        private static int bitsOf(long head) {
+            int bits = 0;
+            while (bits < 64 && head >>> bits != 0) {
+                bits++;
+            }
+            return bits;
+        }
     }
 
     /** A whole number not below 0, in parts of nine decimal digits, the lowest first. */
     private static final class Natural {
         private static final int PART_DIGITS = 9;
         private static final long PART_LIMIT = 1000000000L;
+        private static final long HALF_LIMIT = 500000000L;
 
         /** Room for 1200 digits times 5 to the 2200, that is 2738 digits. */
         private static final int MOST_PARTS = 306;
@@ -381,8 +390,10 @@ public final class ExactDigits {
             long rest = v;
             size = 0;
             while (rest != 0 && size < parts.length) {
-                parts[size] = (int) Long.remainderUnsigned(rest, PART_LIMIT);
-                rest = Long.divideUnsigned(rest, PART_LIMIT);
+                // halves first: a long above the greatest would divide as one below 0
+                long above = (rest >>> 1) / HALF_LIMIT;
+                parts[size] = (int) (rest - above * PART_LIMIT);
+                rest = above;
                 size++;
             }
         }

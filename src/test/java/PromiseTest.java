@@ -10,6 +10,7 @@ public final class PromiseTest {
         PromiseTest test = new PromiseTest();
         test.promise1NewObject();
         test.promise2Whole();
+        test.promise2WholeOfAllSizes();
         test.promise3Real();
         test.promise3RealRefuses();
         test.promise4Shortest();
@@ -104,6 +105,37 @@ public final class PromiseTest {
         whole(Long.MIN_VALUE, "9223372036854775808", 19);
         whole(-616, "18446744073709551", 20);
         whole(-1, "18446744073709551615", 20);
+    }
+
+    /** From 0 up, and on both sides of every power of two and of multiples of 10 to the 9 and 18. */
+    private void promise2WholeOfAllSizes() {
+        for (long v = 0; v <= 1200; v++) {
+            wholeAsText(v);
+            wholeAsText(-1 - v);
+            wholeAsText(Long.MAX_VALUE - v);
+            wholeAsText(Long.MIN_VALUE + v);
+        }
+        for (int bit = 0; bit < 64; bit++) {
+            wholeRound(1L << bit);
+            wholeRound(-1L << bit);
+        }
+        for (long i = 1; i <= 18; i++) {
+            wholeRound(i * 1000000000000000000L);
+            wholeRound(i * 1000000000L);
+            wholeRound((18446744073L - i + 1) * 1000000000L);
+            wholeRound((9223372036L + i - 9) * 1000000000L);
+        }
+    }
+
+    private void wholeRound(long v) {
+        for (long near = -2; near <= 2; near++) {
+            wholeAsText(v + near);
+        }
+    }
+
+    private void wholeAsText(long v) {
+        String text = v == 0 ? "" : Long.toUnsignedString(v);
+        whole(v, text.replaceAll("0+$", ""), text.length());
     }
 
     private void whole(long v, String digits, int point) {
