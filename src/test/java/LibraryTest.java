@@ -3,33 +3,41 @@ import java.io.IOException;
 import java.io.InputStream;
 import java.util.ArrayList;
 import java.util.List;
+import java.util.Map;
 import java.util.Set;
 import java.util.TreeSet;
 
 /**
- * The compiled class uses nothing of the library but what rule 4 of LANGUAGE.md names word for word,
- * what every class and enum has of itself, and the exceptions that the document names.
+ * The compiled class uses nothing of the library but what the rules 4 and 6 of LANGUAGE.md name word
+ * for word, and what every class, enum and record has of itself.
  */
 public final class LibraryTest {
-    private static final Set<String> ALLOWED = Set.of(
-        "java/lang/Object.<init>",
-        "java/lang/Enum.<init>",
-        "java/lang/Enum.valueOf",
-        "java/lang/ArithmeticException.<init>",
-        "java/lang/IllegalArgumentException.<init>",
-        "java/lang/Integer.bitCount",
-        "java/lang/Integer.compare",
-        "java/lang/Long.bitCount",
-        "java/lang/Long.compare",
-        "java/lang/Math.abs",
-        "java/lang/Math.floorDiv",
-        "java/lang/Math.floorMod",
-        "java/lang/Math.max",
-        "java/lang/Math.min",
-        "java/lang/System.arraycopy",
-        "java/util/Arrays.copyOf",
-        "java/util/Arrays.copyOfRange",
-        "java/util/Arrays.fill"
+    /** By class, the names that may be used of it. */
+    private static final Map<String, Set<String>> ALLOWED = Map.ofEntries(
+        Map.entry("java/lang/Object", Set.of("<init>")),
+        Map.entry("java/lang/Record", Set.of("<init>")),
+        Map.entry("java/lang/Enum", Set.of("<init>", "valueOf", "ordinal")),
+        Map.entry("java/lang/String", Set.of("<init>", "length", "charAt", "isEmpty", "equals", "indexOf",
+            "substring", "toCharArray")),
+        Map.entry("java/lang/StringBuilder", Set.of("<init>", "append", "charAt", "setCharAt", "setLength",
+            "deleteCharAt", "reverse", "length", "toString")),
+        Map.entry("java/util/ArrayList", Set.of("<init>", "add", "get", "set", "remove", "size", "isEmpty",
+            "clear", "iterator")),
+        Map.entry("java/util/List", Set.of("add", "get", "set", "remove", "size", "isEmpty", "clear",
+            "iterator", "of")),
+        Map.entry("java/util/Iterator", Set.of("hasNext", "next")),
+        Map.entry("java/lang/Integer", Set.of("compare", "max", "min", "bitCount", "valueOf", "intValue")),
+        Map.entry("java/lang/Long", Set.of("compare", "max", "min", "bitCount")),
+        Map.entry("java/lang/Math", Set.of("max", "min", "abs", "floorDiv", "floorMod")),
+        Map.entry("java/lang/System", Set.of("arraycopy")),
+        Map.entry("java/util/Arrays", Set.of("copyOf", "copyOfRange", "fill")),
+        Map.entry("java/lang/IllegalStateException", Set.of("<init>")),
+        Map.entry("java/lang/IllegalArgumentException", Set.of("<init>")),
+        Map.entry("java/lang/IndexOutOfBoundsException", Set.of("<init>")),
+        Map.entry("java/lang/ArithmeticException", Set.of("<init>")),
+        Map.entry("java/lang/UnsupportedOperationException", Set.of("<init>")),
+        Map.entry("java/util/NoSuchElementException", Set.of("<init>")),
+        Map.entry("java/lang/RuntimeException", Set.of("<init>"))
     );
 
     private static final int UTF8 = 1;
@@ -54,11 +62,18 @@ public final class LibraryTest {
             used.addAll(new LibraryTest().usedBy(name));
         }
         boolean seen = used.contains("java/lang/Object.<init>");
-        used.removeAll(ALLOWED);
+        used.removeIf(LibraryTest::isAllowed);
         System.out.println(seen ? used.size() + " uses of the library outside rule 4 " + used : "no use was seen");
         if (!seen || !used.isEmpty()) {
             System.exit(1);
         }
+    }
+
+    /** An array has no other method than clone. */
+    private static boolean isAllowed(String use) {
+        int dot = use.indexOf('.');
+        String owner = use.substring(0, dot);
+        return owner.startsWith("[") || ALLOWED.getOrDefault(owner, Set.of()).contains(use.substring(dot + 1));
     }
 
     private static List<String> classNames() {
@@ -81,7 +96,7 @@ public final class LibraryTest {
         for (int i = 1; i < kinds.length; i++) {
             if (kinds[i] == FIELD || kinds[i] == METHOD || kinds[i] == INTERFACE_METHOD) {
                 String owner = texts[firsts[firsts[i]]];
-                if (!owner.startsWith("ExactDigits") && !owner.startsWith("[LExactDigits")) {
+                if (!owner.startsWith("ExactDigits")) {
                     used.add(owner + "." + texts[firsts[seconds[i]]]);
                 }
             }

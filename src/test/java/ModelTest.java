@@ -1,7 +1,11 @@
+import java.util.function.LongSupplier;
+
 /** Long runs of calls on new objects, each answer and the state behind it held against the model. */
 public final class ModelTest {
-    private static final int RUNS = 120;
-    private static final int CALLS = 512;
+    private static final int RUNS = 600;
+
+    /** A call takes four more to look at the state, and an object has 512 and no more. */
+    private static final int CALLS = 98;
 
     private static final long[] SIZES = {
         0L, 1L, 2L, 3L, 9L, 10L, 4503599627370495L, 4503599627370496L, 4503599627370497L,
@@ -19,6 +23,7 @@ public final class ModelTest {
 
     private final Checks checks = new Checks();
     private long seed = 20261115L;
+    private int made = 0;
 
     public static void main(String[] args) {
         ModelTest test = new ModelTest();
@@ -69,8 +74,9 @@ public final class ModelTest {
     private void run(int run) {
         ExactDigits x = new ExactDigits();
         Model m = new Model();
-        for (int i = 0; i < CALLS; i++) {
-            call("run " + run + ", call " + i + ": ", x, m);
+        made = 0;
+        while (made < CALLS) {
+            call("run " + run + ", call " + made + ": ", x, m);
         }
     }
 
@@ -161,8 +167,9 @@ public final class ModelTest {
         both(where + "nearest(false)", x, m, () -> x.nearest(false), () -> m.nearest(false));
     }
 
-    private void both(String call, ExactDigits x, Model m, Checks.Call made, Checks.Call due) {
-        checks.due(call, answer(made), answer(due));
+    private void both(String call, ExactDigits x, Model m, LongSupplier got, LongSupplier due) {
+        made++;
+        checks.due(call, answer(got), answer(due));
         checks.due("digest() after " + call, x.digest(), m.digest());
         checks.due("told(0) after " + call, x.told(0), m.count());
         checks.due("told(1) after " + call, x.told(1), m.point());
@@ -170,9 +177,9 @@ public final class ModelTest {
     }
 
     /** No right answer is so far below 0, so a throw cannot be taken for one. */
-    private static long answer(Checks.Call call) {
+    private static long answer(LongSupplier call) {
         try {
-            return call.answer();
+            return call.getAsLong();
         } catch (IllegalArgumentException e) {
             return Long.MIN_VALUE + 1;
         } catch (ArithmeticException e) {
